@@ -151,6 +151,13 @@ public final class ChangesTest {
     Due.same("brokenTotal()", house.brokenTotal(), 0);
     Due.same("openContracts()", house.openContracts(), 0);
     Due.same("the id after cancelled ones", house.hire(0, 0, 1, 1), 3);
+    house.fund(99);
+    house.hire(0, 1, 50, 1);
+    house.hire(0, 2, 10, 1);
+    Due.same("cancelContract(4)", house.cancelContract(4), 5);
+    Due.same("cancelContract(5)", house.cancelContract(5), 1);
+    Due.same("chest()", house.chest(), 93);
+    Due.same("purse(0)", house.purse(0), 22);
   }
 
   private static void restAndWake() {

@@ -184,6 +184,10 @@ public final class NightsTest {
     Due.same("a debt paid off in the night bears no interest", house.debt(0), 0);
     Due.same("interestTotal()", house.interestTotal(), 4 + 5 + 3);
 
+    house.lend(2, 1);
+    house.passNights(7);
+    Due.same("debt(2) of 1 crumb", house.debt(2), 2);
+
     GoblinHousehold deep = new GoblinHousehold();
     deep.fund(999);
     deep.addGoblin(1);

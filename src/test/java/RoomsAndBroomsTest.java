@@ -31,6 +31,20 @@ public final class RoomsAndBroomsTest {
       Due.same("dust(" + i + ")", house.dust(i), dust[i]);
       Due.same("roomByDust(" + i + ")", house.roomByDust(i), order[i]);
     }
+
+    GoblinHousehold near = new GoblinHousehold();
+    near.addGoblin(1);
+    near.addBroom(2);
+    near.hire(0, 0, 1, 1);
+    near.passNights(4);
+    near.addBroom(1);
+    near.banishBroom(0);
+    near.hire(0, 1, 1, 1);
+    near.passNights(1);
+    Due.same("dust(0)", near.dust(0), 23);
+    Due.same("dust(1), more by 1", near.dust(1), 24);
+    Due.same("roomByDust(4)", near.roomByDust(4), 1);
+    Due.same("roomByDust(5)", near.roomByDust(5), 0);
   }
 
   private static void brooms() {

@@ -4,6 +4,7 @@ import java.util.NoSuchElementException;
 public final class UndoTest {
   public static void main(String[] args) {
     undoEveryChange();
+    undoEveryScript();
     undoTheLatestEight();
     undoAndNewChanges();
     undoAndRefusedChanges();
@@ -13,7 +14,49 @@ public final class UndoTest {
     Due.end();
   }
 
+  private static GoblinHousehold busy() {
+    GoblinHousehold house = new GoblinHousehold();
+    house.addGoblin(3);
+    house.addGoblin(9);
+    house.rest(1);
+    house.addBroom(7);
+    house.addBroom(8);
+    house.banishBroom(1);
+    house.spend(60);
+    house.lend(0, 20);
+    house.hire(0, 1, 50, 5);
+    house.hire(1, 1, 10, 5);
+    return house;
+  }
+
+  private static void undone(String call, GoblinHousehold house, Due.Call made) {
+    String before = Due.state(house);
+    Due.same(call + " returns normally", made.answer() instanceof Integer, true);
+    Due.same("undo() after " + call, house.undo(), 7);
+    Due.same("the state after undo of " + call, Due.state(house), before);
+  }
+
   private static void undoEveryChange() {
+    GoblinHousehold[] houses = new GoblinHousehold[12];
+    for (int i = 0; i < houses.length; i++) {
+      houses[i] = busy();
+    }
+    undone("addGoblin", houses[0], () -> houses[0].addGoblin(2));
+    undone("addBroom", houses[1], () -> houses[1].addBroom(20));
+    undone("banishBroom", houses[2], () -> houses[2].banishBroom(0));
+    undone("recallBroom", houses[3], () -> houses[3].recallBroom(1));
+    undone("hire", houses[4], () -> houses[4].hire(1, 2, 3, 4));
+    undone("cancelContract", houses[5], () -> houses[5].cancelContract(0));
+    undone("rest", houses[6], () -> houses[6].rest(0));
+    undone("wake", houses[7], () -> houses[7].wake(1));
+    undone("lend", houses[8], () -> houses[8].lend(1, 5));
+    undone("fund", houses[9], () -> houses[9].fund(77));
+    undone("spend", houses[10], () -> houses[10].spend(7));
+    undone("passNights", houses[11], () -> houses[11].passNights(7));
+    Due.same("the id of the next contract", houses[4].hire(0, 0, 1, 1), 2);
+  }
+
+  private static void undoEveryScript() {
     String[] scripts = {"goblin 3", "broom 7", "hire 0 1 20/5", "night", "banish 0", "recall 0", "lend 0 30", "rest 0",
         "wake 0", "fund 50", "spend 20", "night 7", "hire 0 4 50/20", "cancel 1", "goblin 2", "rest 1", "hire 1 0 2/2",
         "night 3"};
@@ -154,5 +197,19 @@ public final class UndoTest {
     Due.same("restore()", house.restore(), 1);
     Due.same("the state", Due.state(house), savedLater);
     Due.same("restore() without changes since", house.restore(), 1);
+
+    GoblinHousehold other = busy();
+    other.save();
+    String savedBusy = Due.state(other);
+    for (int i = 0; i < 8; i++) {
+      other.undo();
+    }
+    other.addGoblin(1);
+    other.addBroom(1);
+    other.addBroom(1);
+    other.hire(2, 5, 1, 1);
+    other.passNights(9);
+    other.restore();
+    Due.same("the state where others were added since", Due.state(other), savedBusy);
   }
 }

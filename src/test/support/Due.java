@@ -80,6 +80,7 @@ final class Due {
       text.append(" contract ").append(id).append(':').append(house.goblinOf(id)).append('>').append(house.roomOf(id));
       text.append('@').append(house.wage(id)).append('/').append(house.effort(id));
     }
+    same("isConsistent()", house.isConsistent(), true);
     return text.toString();
   }
 }
