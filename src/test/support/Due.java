@@ -30,6 +30,10 @@ final class Due {
     same(call, outcome(made), due);
   }
 
+  static int wrongSoFar() {
+    return wrong;
+  }
+
   static void end() {
     if (wrong != 0) {
       System.out.println(wrong + " answers are not as due");
