@@ -6,7 +6,9 @@ import java.nio.file.Files;
 import java.nio.file.Path;
 import java.util.ArrayList;
 import java.util.Arrays;
+import java.util.LinkedHashMap;
 import java.util.List;
+import java.util.Map;
 import java.util.TreeSet;
 import java.util.regex.Matcher;
 import java.util.regex.Pattern;
@@ -15,9 +17,12 @@ import java.util.regex.Pattern;
 // file and can be seen from its words.
 public final class FaceTest {
   public static void main(String[] args) throws Exception {
-    face(Files.readString(Path.of("../shared/DOC.md")));
+    String document = Files.readString(Path.of("../shared/DOC.md"));
+    String program = Files.readString(Path.of("src/main/java/GoblinHousehold.java"));
+    face(document);
+    headings(document, program);
     members();
-    language(withoutComments(Files.readString(Path.of("src/main/java/GoblinHousehold.java"))));
+    language(withoutComments(program));
     Due.end();
   }
 
@@ -40,6 +45,28 @@ public final class FaceTest {
     }
     Due.same("the number of methods", got.size(), 57);
     Due.same("the face", got, due);
+  }
+
+  /** What the interface says ahead of which calls, as "Terms" has it. */
+  private static void headings(String document, String program) {
+    Map<String, List<String>> due = new LinkedHashMap<>();
+    Matcher sentence = Pattern.compile("Ahead of the calls ([^.]*) the interface says: ([^.]*)\\.").matcher(document);
+    while (sentence.find()) {
+      due.put(sentence.group(2), Arrays.asList(sentence.group(1).replace("`", "").split(", ")));
+    }
+    Map<String, List<String>> got = new LinkedHashMap<>();
+    for (String part : program.split("    // ---- ")) {
+      if (!part.startsWith("import ")) {
+        List<String> calls = new ArrayList<>();
+        Matcher call = Pattern.compile("(?m)^    public \\w+ (\\w+)\\(").matcher(part);
+        while (call.find()) {
+          calls.add(call.group(1));
+        }
+        got.put(part.substring(0, part.indexOf('\n')), calls);
+      }
+    }
+    Due.same("the number of headings", due.size(), 7);
+    Due.same("the headings and the calls under them", got.toString(), due.toString());
   }
 
   private static List<String> names(Class<?>[] classes) {
